@@ -379,11 +379,8 @@ public final class ExpectRows {
             return false;
         }
 
+        /** A holiday that begins at the due time, or around t with none to wait, puts off nothing. */
         private long dueAfter(long t, long within) {
-            // No second has to pass, so not even a holiday around t puts it off.
-            if (within == 0L) {
-                return t;
-            }
             long due = t + within;
             for (int i = 0; i < count; i++) {
                 long begin = Math.max(days[i] * DAY, t);

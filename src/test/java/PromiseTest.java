@@ -24,7 +24,7 @@ public final class PromiseTest {
     }
   }
 
-  /** One row for state 0 anywhere, due at once. */
+  /** One row for state 0 anywhere, due within so many seconds. */
   private static ExpectRows withRow(long within) {
     ExpectRows x = new ExpectRows();
     x.rule(0, -1, -1, within, false);
