@@ -43,6 +43,27 @@ public final class FaceTest {
       if (Modifier.isPublic(m.getModifiers())) open.add(m.getName());
     for (Method m : ExpectRows.class.getDeclaredMethods())
       if (Modifier.isPrivate(m.getModifiers()) && open.contains(m.getName())) return true;
+    for (Class<?> inside : ExpectRows.class.getDeclaredClasses())
+      for (Method m : inside.getDeclaredMethods())
+        if (Modifier.isPrivate(m.getModifiers()) && open.contains(m.getName())) return true;
+    return false;
+  }
+
+  private static boolean classesInsideAreOpen() {
+    for (Class<?> inside : ExpectRows.class.getDeclaredClasses()) {
+      int modifiers = inside.getModifiers();
+      if (!Modifier.isStatic(modifiers) || Modifier.isPublic(modifiers) || Modifier.isProtected(modifiers)) return true;
+    }
+    return false;
+  }
+
+  /** State that two objects share would make an answer depend on more than an object's own calls. */
+  private static boolean hasSharedState() {
+    for (Field f : ExpectRows.class.getDeclaredFields())
+      if (Modifier.isStatic(f.getModifiers()) && !Modifier.isFinal(f.getModifiers())) return true;
+    for (Class<?> inside : ExpectRows.class.getDeclaredClasses())
+      for (Field f : inside.getDeclaredFields())
+        if (Modifier.isStatic(f.getModifiers()) && !Modifier.isFinal(f.getModifiers())) return true;
     return false;
   }
 
@@ -62,6 +83,14 @@ public final class FaceTest {
     if (sharesNames()) {
       wrong = true;
       System.out.println("a private method bears the name of a public one");
+    }
+    if (classesInsideAreOpen()) {
+      wrong = true;
+      System.out.println("a class inside is not static, or can be seen from outside the package");
+    }
+    if (hasSharedState()) {
+      wrong = true;
+      System.out.println("a static field is not final");
     }
     System.out.println(wrong ? "the face is not as due" : "the face is as due");
     if (wrong) System.exit(1);
